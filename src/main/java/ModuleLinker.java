@@ -149,7 +149,7 @@ public final class ModuleLinker {
             case 1:
                 return definition.exported ? 1 : 0;
             case 2:
-                return parameterWords(definition.signature);
+                return definition.words;
             default:
                 return typeAt(definition.signature, 0);
         }
@@ -164,7 +164,7 @@ public final class ModuleLinker {
         if (definition == null || !definition.exported) {
             throw new NoSuchElementException();
         }
-        if (parameterWords(definition.signature) > CALL_WORDS) {
+        if (definition.words > CALL_WORDS) {
             throw new IllegalArgumentException();
         }
         machine.load(a, b, c, d);
@@ -257,16 +257,13 @@ public final class ModuleLinker {
         return k > PARAMETERS ? 0 : (signature >> (2 * k)) & 3;
     }
 
+    /** The words of the parameters before parameter k. */
     private static int wordsBefore(int signature, int k) {
         int words = 0;
         for (int i = 1; i < k; i++) {
             words += typeAt(signature, i);
         }
         return words;
-    }
-
-    private static int parameterWords(int signature) {
-        return wordsBefore(signature, PARAMETERS + 1);
     }
 
     /** An import or a definition. */
@@ -276,6 +273,8 @@ public final class ModuleLinker {
         private int name;
         // Two bits a type: the result's lowest, then those of the parameters.
         private int signature;
+        // Those of the parameters.
+        private int words;
         private boolean exported;
         // Where a definition's expression begins in the text, then in the code.
         private int start;
@@ -400,6 +399,7 @@ public final class ModuleLinker {
                 refuse();
             }
             item.signature = readSignature();
+            item.words = wordsBefore(item.signature, PARAMETERS + 1);
             if (item.owner == NONE) {
                 take('=');
                 item.start = at;
@@ -697,7 +697,7 @@ public final class ModuleLinker {
         /** Calls a definition of module m whose parameters have been loaded. */
         private int run(Unit[] all, int m, Item definition, int fuelGiven) {
             units = all;
-            height = parameterWords(definition.signature);
+            height = definition.words;
             base = 0;
             fuel = fuelGiven;
             most = 0;
@@ -726,7 +726,7 @@ public final class ModuleLinker {
                 return;
             }
             most = Math.max(most, needed);
-            int arguments = height - parameterWords(definition.signature);
+            int arguments = height - definition.words;
             push(goOn);
             push(base);
             base = arguments;
