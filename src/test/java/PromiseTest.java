@@ -500,18 +500,18 @@ public final class PromiseTest {
 
     private static void took() {
         Probe x = new Probe("11 took", 30);
-        x.accepts("A;+a(I)I=[$1?a($1-1)*$1:b()];b()I=1+(1+(1+1));+c()I=b()+1");
-        x.due(3, "link");
+        x.accepts("A;+a(I)I=[$1?a($1-1)*$1:b()];b()I=1+(1+(1+1));+c()I=[b()?d():0];d()I=1");
+        x.due(4, "link");
         x.due(0, "call", 0, 0, 0, 0, 0, 0, 9);
         x.due(8, "took", 0);
         x.due(2, "took", 1);
         x.due(0, "call", 0, 0, 6, 0, 0, 0, 9);
         x.due(26, "took", 0);
         x.due(8, "took", 1);
-        // The most stays when functions are left.
+        // The most stays when a function that needs less is entered later.
         x.due(0, "call", 0, 2, 0, 0, 0, 0, 9);
         x.due(7, "took", 0);
-        x.due(2, "took", 1);
+        x.due(3, "took", 1);
         x.due(1, "call", 0, 0, 60, 0, 0, 0, 99);
         x.due(28, "took", 0);
         x.due(10, "took", 1);
