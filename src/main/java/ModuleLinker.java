@@ -273,7 +273,7 @@ public final class ModuleLinker {
         private int name;
         // Two bits a type: the result's lowest, then those of the parameters.
         private int signature;
-        // Those of the parameters.
+        // How many words the parameters have.
         private int words;
         private boolean exported;
         // Where a definition's expression begins in the text, then in the code.
@@ -373,7 +373,7 @@ public final class ModuleLinker {
         }
 
         private void readHeads() {
-            unit.name = readLetter('A', 'F');
+            unit.name = readAmong('A', 'F');
             for (int i = 0; i < ITEMS && (i == 0 || peek() == ';'); i++) {
                 take(';');
                 readHead(unit.items[i]);
@@ -388,12 +388,12 @@ public final class ModuleLinker {
             item.owner = NONE;
             item.exported = false;
             if (takeIf('?')) {
-                item.owner = readLetter('A', 'F');
+                item.owner = readAmong('A', 'F');
                 take('.');
             } else {
                 item.exported = takeIf('+');
             }
-            item.name = readLetter('a', 'z');
+            item.name = readAmong('a', 'z');
             // The item itself is not counted yet, so what is found is an earlier one.
             if (unit.find(item.owner, item.name) != null) {
                 refuse();
@@ -505,7 +505,7 @@ public final class ModuleLinker {
                 return readCall(NONE, depth + 1);
             }
             if (isIn(next, 'A', 'F')) {
-                int owner = readLetter('A', 'F');
+                int owner = readAmong('A', 'F');
                 take('.');
                 return readCall(owner, depth + 1);
             }
@@ -524,7 +524,7 @@ public final class ModuleLinker {
         private int readNumber() {
             int number = 0;
             for (int i = 0; i < 4 && isIn(peek(), '0', '9'); i++) {
-                number = 10 * number + readLetter('0', '9');
+                number = 10 * number + readAmong('0', '9');
             }
             unit.emit(NUMBER, number);
             return INT;
@@ -532,7 +532,7 @@ public final class ModuleLinker {
 
         private int readParameter() {
             take('$');
-            int k = 1 + readLetter('1', '3');
+            int k = 1 + readAmong('1', '3');
             int type = typeAt(signature, k);
             if (type == 0) {
                 typesWrong = true;
@@ -577,7 +577,7 @@ public final class ModuleLinker {
         }
 
         private int readCall(int owner, int depth) {
-            int name = readLetter('a', 'z');
+            int name = readAmong('a', 'z');
             Item called = unit.find(owner, name);
             int types = called == null ? 0 : called.signature;
             take('(');
@@ -642,7 +642,7 @@ public final class ModuleLinker {
         }
 
         /** The place of the next character among those from low to high. */
-        private int readLetter(char low, char high) {
+        private int readAmong(char low, char high) {
             char next = peek();
             if (!isIn(next, low, high)) {
                 refuse();
