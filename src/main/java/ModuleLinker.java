@@ -116,7 +116,7 @@ public final class ModuleLinker {
     }
 
     public int link() throws IllegalStateException, UnsupportedOperationException {
-        if (countModules() == 0) {
+        if (!hasModules()) {
             throw new IllegalStateException();
         }
         findUnfit();
@@ -201,14 +201,13 @@ public final class ModuleLinker {
         return isPresent(m) ? units[m].find(NONE, f) : null;
     }
 
-    private int countModules() {
-        int count = 0;
+    private boolean hasModules() {
         for (int m = 0; m < MODULES; m++) {
             if (present[m]) {
-                count++;
+                return true;
             }
         }
-        return count;
+        return false;
     }
 
     private int countDefinitions() {

@@ -6,7 +6,6 @@ import java.util.Random;
 /** Made-up runs of calls, the same ones each time, on the program and on the reference side by side. */
 public final class ReferenceTest {
     private static final int RUNS = 3000;
-    private static final int CALLS = 512;
     private static final String STRAY = "ABCFGabcz01239$(){}[]?:;,.+-*= IP~";
 
     private final Random random;
@@ -48,7 +47,7 @@ public final class ReferenceTest {
     }
 
     private void play() {
-        while (calls < CALLS - 60) {
+        while (probe.callsLeft() > 60) {
             int what = random.nextInt(20);
             if (what < 4) {
                 giveModule();
@@ -72,7 +71,7 @@ public final class ReferenceTest {
         same("unfit", 1);
         if (fit) {
             links++;
-            for (int i = 0; i < 6 && calls < CALLS - 60; i++) {
+            for (int i = 0; i < 6 && probe.callsLeft() > 60; i++) {
                 callSome();
             }
         }
