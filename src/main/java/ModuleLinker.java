@@ -627,7 +627,7 @@ public final class ModuleLinker {
         }
 
         private boolean takeIf(char wanted) {
-            if (peek() != wanted) {
+            if (at >= length || text[at] != wanted) {
                 return false;
             }
             at++;
@@ -738,7 +738,8 @@ public final class ModuleLinker {
             int goOn = pop();
             height = base;
             base = callersBase;
-            if (goOn == NONE) {
+            // NONE, where the function that was called first goes on, is no place in the code.
+            if (goOn < 0 || goOn >= MODULES * CODE) {
                 outcome = DONE;
                 return;
             }
@@ -755,11 +756,11 @@ public final class ModuleLinker {
                     first = operand;
                     break;
                 case INT_PARAMETER:
-                    first = stack[base + operand];
+                    first = wordAt(base + operand);
                     break;
                 case PAIR_PARAMETER:
-                    first = stack[base + operand];
-                    second = stack[base + operand + 1];
+                    first = wordAt(base + operand);
+                    second = wordAt(base + operand + 1);
                     break;
                 case PUSH_INT:
                     push(first);
@@ -800,14 +801,17 @@ public final class ModuleLinker {
         }
 
         private void enterNamed(int m, int name) {
-            Unit home = units[m];
-            Item definition = home.find(NONE, name);
-            // What is linked has it; the test only keeps a null from being used.
+            // What is linked has it; the tests only keep a wrong index and a null from being used.
+            Item definition = m >= 0 && m < MODULES ? units[m].find(NONE, name) : null;
             if (definition == null) {
                 outcome = STACK_OVER;
                 return;
             }
-            enter(home, definition, unit.name * CODE + next);
+            enter(units[m], definition, unit.name * CODE + next);
+        }
+
+        private int wordAt(int place) {
+            return place >= 0 && place < LARGEST_STACK ? stack[place] : 0;
         }
 
         private void push(int word) {
